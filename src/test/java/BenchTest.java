@@ -313,6 +313,15 @@ public final class BenchTest {
         Check.refuses("47: no piece", Check.ELEMENT, x::bestTool);
         x.bring(2, 0);
         Check.refuses("47: all too coarse, or not to be read", Check.ELEMENT, x::bestTool);
+
+        VernierDrawers y = withScrew();
+        y.addTool(0, 0);
+        y.addTool(4, 0);
+        y.addType(1000, -30, 30, 0);
+        y.bring(0, 0);
+        Check.is("47: the first tool", 0, y::bestTool);
+        y.setWarmth(50);
+        Check.is("47: two as fine and a coarse one", 0, y::bestTool);
     }
 
     private static void file() {

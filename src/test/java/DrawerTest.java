@@ -16,6 +16,7 @@ public final class DrawerTest {
         stepOf();
         usesOf();
         isDue();
+        isDueAgain();
         stretchOf();
         readings();
         readingsRefused();
@@ -418,6 +419,31 @@ public final class DrawerTest {
         Check.is("21: after 10 days of its own", 1, () -> Check.of(x.isDue(1)));
     }
 
+    /** The day since which a tool is counted is kept and recorded, too. */
+    private static void isDueAgain() {
+        VernierDrawers x = new VernierDrawers();
+        x.addBlock(100, 0);
+        for (int i = 0; i < 5; i++) {
+            x.endDay();
+        }
+        x.addTool(4, 0);
+        x.keep();
+        x.goBack();
+        for (int i = 0; i < 9; i++) {
+            x.endDay();
+        }
+        Check.is("69: after 9 days of its own", 0, () -> Check.of(x.isDue(0)));
+        x.calibrate(0, 100);
+        x.undo();
+        x.endDay();
+        Check.is("71: not calibrated, after 10 days", 1, () -> Check.of(x.isDue(0)));
+        x.calibrate(0, 100);
+        x.setWarmth(0);
+        x.undo();
+        x.endDay();
+        Check.is("71: calibrated", 0, () -> Check.of(x.isDue(0)));
+    }
+
     private static void stretchOf() {
         VernierDrawers x = new VernierDrawers();
         Check.is("24: at 20 degrees", 0, () -> x.stretchOf(2, 15000));
@@ -595,6 +621,20 @@ public final class DrawerTest {
         stacks(x, 1264, 5, 62, 1270);
         allStacksRefused(x, Check.ELEMENT, 1364);
 
+        VernierDrawers v = new VernierDrawers();
+        v.addBlock(63, 0);
+        v.addBlock(1, 0);
+        v.addBlock(64, 0);
+        stacks(v, 63, 1, 1, 63);
+        stacks(v, 64, 1, 4, 64);
+        stacks(v, 65, 2, 6, 65);
+        stacks(v, 127, 2, 5, 127);
+        stacks(v, 128, 3, 7, 129);
+        VernierDrawers u = new VernierDrawers();
+        u.addBlock(63, 0);
+        u.addBlock(1, 0);
+        stacks(u, 64, 2, 3, 64);
+
         VernierDrawers y = new VernierDrawers();
         for (int i = 0; i < 10; i++) {
             y.addBlock(5000, 0);
@@ -649,6 +689,13 @@ public final class DrawerTest {
         Check.is("37: and seven with 4800, up to 15000", 15, x::stackable);
         x.undo();
         Check.is("37: undone", 8, x::stackable);
+
+        VernierDrawers v = new VernierDrawers();
+        v.addBlock(5000, 0);
+        v.addBlock(5000, 0);
+        v.addBlock(5000, 0);
+        v.addBlock(1, 0);
+        Check.is("37: 15000, but not 15001", 6, v::stackable);
 
         VernierDrawers y = new VernierDrawers();
         for (int i = 0; i < 10; i++) {

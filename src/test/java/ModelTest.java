@@ -9,14 +9,25 @@ import java.util.Random;
 public final class ModelTest {
     private static final int RUNS = 400;
     private static final int CALLS = 512;
-    private static final String[] OFTEN = {"bring", "bring", "bring", "bring", "judge", "judge", "judge", "judge",
-        "judge", "judge", "file", "file", "passUnseen", "measure", "calibrate", "calibrate", "addTool", "addBlock",
-        "addType", "endDay", "undo", "keep", "goBack", "play", "text", "text", "text", "lookAtAll"};
+    // What is called often, by the mood of a run: a bit of all, the bench, blocks and tools, texts.
+    private static final String[][] OFTEN = {
+        {"bring", "bring", "bring", "judge", "judge", "judge", "file", "passUnseen", "measure", "calibrate",
+            "addTool", "addBlock", "addType", "endDay", "undo", "keep", "goBack", "play", "text", "lookAtAll"},
+        {"bring", "bring", "bring", "bring", "judge", "judge", "judge", "judge", "judge", "judge", "judge", "judge",
+            "file", "passUnseen", "passUnseen", "calibrate", "signalsOf", "whyNotPass", "middleOf", "middleByTaking",
+            "goodUntilChange", "whyNotJudge", "wouldJudge", "mannerOf", "chartedAt", "wasDoubted"},
+        {"addBlock", "calibrate", "calibrate", "calibrate", "fewestBlocks", "fewestByTrying", "stackFor",
+            "trueLength", "stackable", "measure", "readingFor", "readingByLooking", "blockError", "knownError"},
+        {"text", "text", "judge", "bring", "play", "play", "undo", "calibrate", "lookAtAll"}};
 
     private final VernierDrawers program = new VernierDrawers();
     private final Model model = new Model();
     private final Random random;
     private final int run;
+    private final int mood;
+    // How far away from right most pieces are, and how they drift: else no type is looked at loosely.
+    private final int far;
+    private final int drift;
     private int calls;
     private final List<String> told = new ArrayList<>();
 
@@ -24,7 +35,10 @@ public final class ModelTest {
 
     private ModelTest(int run) {
         this.run = run;
+        this.mood = run % OFTEN.length;
         this.random = new Random(run);
+        this.far = random.nextBoolean() ? 15 : 45;
+        this.drift = random.nextInt(5) - 2;
     }
 
     public static void main(String[] args) throws Exception {
@@ -46,12 +60,13 @@ public final class ModelTest {
     }
 
     private void runAll() throws Exception {
-        if (run % 2 == 0) {
+        if (run % 8 != 0) {
             furnish();
         }
+        String[] often = OFTEN[mood];
         while (calls < CALLS) {
-            if (random.nextInt(100) < 70) {
-                often(OFTEN[random.nextInt(OFTEN.length)]);
+            if (random.nextInt(100) < 90) {
+                often(often[random.nextInt(often.length)]);
             } else {
                 call(FACE.get(random.nextInt(FACE.size())));
             }
@@ -168,6 +183,18 @@ public final class ModelTest {
         return least + random.nextInt(most - least + 1);
     }
 
+    /** The number of one of so many, seldom a wrong one. */
+    private int ofSome(int many) {
+        return many == 0 || random.nextInt(30) == 0 ? some(0, many) : random.nextInt(many);
+    }
+
+    private int deviation() {
+        if (random.nextInt(12) == 0) {
+            return some(-200, 200);
+        }
+        return drift * (calls / 4 % 8) + random.nextInt(2 * far + 1) - far;
+    }
+
     private int argument(String name, int place, int count) {
         switch (name) {
             case "addTool":
@@ -180,7 +207,7 @@ public final class ModelTest {
                 return place == 0 ? some(100, random.nextBoolean() ? 2500 : 14000)
                         : place == 1 ? some(-99, 0) : place == 2 ? some(0, 99) : some(0, 2);
             case "bring":
-                return place == 0 ? some(0, 2) : random.nextInt(3) == 0 ? some(-200, 200) : some(-45, 45);
+                return place == 0 ? ofSome(model.types()) : deviation();
             case "file":
                 return some(1, 99);
             case "setTolerance":
@@ -189,11 +216,11 @@ public final class ModelTest {
                 return place == 0 ? some(0, 2) : some(0, 15000);
             case "typeAt":
             case "wasDoubted":
-                return some(0, 8);
+                return some(0, random.nextInt(9));
             case "type":
                 return some(32, 126);
             case "chartedAt":
-                return place == 0 ? some(0, 2) : some(0, 11);
+                return place == 0 ? ofSome(model.types()) : some(0, 11);
             default:
                 return otherArgument(name, place, count);
         }
@@ -203,7 +230,7 @@ public final class ModelTest {
         boolean ofBlocks = name.equals("fewestBlocks") || name.equals("fewestByTrying") || name.equals("stackFor")
                 || name.equals("trueLength") || name.equals("calibrate") && place == 1;
         if (ofBlocks) {
-            return random.nextInt(4) == 0 ? some(1, 15000) : 100 * some(1, 40);
+            return random.nextInt(8) == 0 ? some(1, 15000) : ofBlocks();
         }
         if (count == 3 && place == 1) {
             return some(0, 2);
@@ -211,7 +238,20 @@ public final class ModelTest {
         if (count == 3 && place == 2) {
             return some(0, random.nextBoolean() ? 2500 : 15000);
         }
-        return some(0, 2);
+        boolean ofTools = count == 3 || name.equals("calibrate") || name.equals("kindOf") || name.equals("stepOf")
+                || name.equals("usesOf") || name.equals("wearOf") || name.equals("knownError")
+                || name.equals("isDue") || name.equals("usesLeft") || name.equals("judge")
+                || name.equals("whyNotJudge") || name.equals("wouldJudge");
+        return ofSome(ofTools ? model.tools() : name.startsWith("block") ? model.blocks() : model.types());
+    }
+
+    /** The sum of some blocks, most often few of them. */
+    private int ofBlocks() {
+        int sum = 0;
+        for (int i = random.nextInt(6); i >= 0 && model.blocks() > 0; i--) {
+            sum += model.blockLength(random.nextInt(model.blocks()));
+        }
+        return Math.min(sum, 15001);
     }
 
     private void call(Method method, int... given) throws Exception {
