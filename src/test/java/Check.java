@@ -12,12 +12,30 @@ final class Check {
 
     private static int checks = 0;
     private static int wrong = 0;
+    private static String about = "";
 
     private Check() {
     }
 
     static double of(boolean answer) {
         return answer ? 1 : 0;
+    }
+
+    static int count() {
+        return checks;
+    }
+
+    /** What is told from now on is told to be about this. */
+    static void about(String what) {
+        about = what;
+    }
+
+    static void same(String what, String due, String got) {
+        checks++;
+        if (!got.equals(due)) {
+            tell(what + " is" + System.lineSeparator() + got + System.lineSeparator() + "due is"
+                    + System.lineSeparator() + due);
+        }
     }
 
     static void is(String what, double due, Call call) {
@@ -46,7 +64,7 @@ final class Check {
 
     static void tell(String what) {
         wrong++;
-        System.out.println(what);
+        System.out.println(about + what);
     }
 
     static void type(VernierDrawers x, String text) {

@@ -265,15 +265,16 @@ public final class HistoryTest {
         Check.is("73: typing is no change", 1, x::states);
     }
 
-    private static void fault(VernierDrawers x, String text, int position, int reason, int cause) {
+    private static void fault(Made made, String text, int position, int reason, int cause) {
+        VernierDrawers x = made.make();
         // An empty text is told between them, so that each of them is told for itself.
-        noFault(x, "");
+        noFaultOf(x, "");
         Check.write(x, text);
         Check.is("74: " + text, position, x::faultPosition);
-        noFault(x, "");
+        noFaultOf(x, "");
         Check.write(x, text);
         Check.is("75: " + text, reason, x::faultReason);
-        noFault(x, "");
+        noFaultOf(x, "");
         Check.write(x, text);
         Check.is("76: " + text, cause, x::faultCause);
         Check.refuses("77: " + text, Check.STATE, x::play);
@@ -281,7 +282,11 @@ public final class HistoryTest {
         Check.type(x, text);
     }
 
-    private static void noFault(VernierDrawers x, String text) {
+    private static void noFault(Made made, String text) {
+        noFaultOf(made.make(), text);
+    }
+
+    private static void noFaultOf(VernierDrawers x, String text) {
         Check.write(x, text);
         Check.refuses("74: " + text, Check.ELEMENT, x::faultPosition);
         Check.refuses("75: " + text, Check.ELEMENT, x::faultReason);
@@ -297,7 +302,7 @@ public final class HistoryTest {
     }
 
     private static void forms() {
-        VernierDrawers x = readyForTexts();
+        Made x = HistoryTest::readyForTexts;
         noFault(x, "");
         noFault(x, "m0,5;");
         noFault(x, "c0,100;");
@@ -335,7 +340,7 @@ public final class HistoryTest {
     }
 
     private static void formsOfNumbers() {
-        VernierDrawers x = readyForTexts();
+        Made x = HistoryTest::readyForTexts;
         noFault(x, "m00000,00005;");
         noFault(x, "c00000,00100;");
         noFault(x, "p00000,00020;j00000;");
@@ -351,7 +356,7 @@ public final class HistoryTest {
     }
 
     private static void formsThatEnd() {
-        VernierDrawers x = readyForTexts();
+        Made x = HistoryTest::readyForTexts;
         String order = "m00000,00005";
         for (int length = 1; length <= order.length(); length++) {
             fault(x, order.substring(0, length), 0, 1, length);
@@ -367,7 +372,7 @@ public final class HistoryTest {
     }
 
     private static void causes() {
-        VernierDrawers x = readyForTexts();
+        Made x = HistoryTest::readyForTexts;
         fault(x, "m1,5;", 0, 2, 1);
         fault(x, "m0,99999;", 0, 2, 1);
         fault(x, "m0,2501;", 0, 2, 2);
@@ -383,36 +388,40 @@ public final class HistoryTest {
         fault(x, "f100;", 0, 2, 1);
         fault(x, "f1;", 0, 2, 2);
         fault(x, "u;", 0, 2, 2);
-        for (int i = 0; i < 20; i++) {
-            x.bring(0, 0);
-        }
-        fault(x, "p0,0;", 0, 2, 2);
-        fault(x, "p0,201;", 0, 2, 1);
-        noFault(x, "j0;p0,0;");
-        fault(x, "j0;p0,0;p0,0;", 8, 2, 2);
+        Made full = () -> {
+            VernierDrawers y = readyForTexts();
+            for (int i = 0; i < 20; i++) {
+                y.bring(0, 0);
+            }
+            return y;
+        };
+        fault(full, "p0,0;", 0, 2, 2);
+        fault(full, "p0,201;", 0, 2, 1);
+        noFault(full, "j0;p0,0;");
+        fault(full, "j0;p0,0;p0,0;", 8, 2, 2);
     }
 
     private static void causeOfEndDay() {
-        VernierDrawers x = new VernierDrawers();
-        Check.write(x, "d;d;d;d;d;d;d;d;d;d;d;d;d;d;d;d;d;d;d;d;d;d;d;d;d;d;d;");
-        Check.playTimes(x, 37);
-        Check.is("60: 999 days", 999, x::days);
-        fault(x, "d;", 0, 2, 2);
-        fault(x, "d", 0, 1, 1);
+        Check.is("60: 999 days", 999, () -> Made.late(999).days());
+        fault(() -> Made.late(999), "d;", 0, 2, 2);
+        fault(() -> Made.late(999), "d", 0, 1, 1);
     }
 
     private static void orderByOrder() {
+        Made made = HistoryTest::readyForTexts;
+        fault(made, "j0;", 0, 2, 2);
+        fault(made, "p0,5;j0;j0;", 8, 2, 2);
+        fault(made, "p0,50;j0;f5;j0;j0;f99;", 15, 2, 2);
+        fault(made, "p0,50;j0;f5;j0;f99;f99;", 19, 2, 2);
+        fault(made, "j0;x", 0, 2, 2);
+        fault(made, "d;j9;x", 2, 2, 1);
+        fault(made, "d;x;j9;", 2, 1, 0);
+        fault(made, "d;d;d;d;d;d;d;d;d;d;p0,0;j0;", 25, 2, 2);
+        noFault(made, "d;d;d;d;d;d;d;d;d;p0,0;j0;");
+        noFault(made, "d;d;d;d;d;d;d;d;d;d;c0,100;p0,0;j0;");
         VernierDrawers x = readyForTexts();
-        fault(x, "j0;", 0, 2, 2);
-        fault(x, "p0,5;j0;j0;", 8, 2, 2);
-        fault(x, "p0,50;j0;f5;j0;j0;f99;", 15, 2, 2);
-        fault(x, "p0,50;j0;f5;j0;f99;f99;", 19, 2, 2);
-        fault(x, "j0;x", 0, 2, 2);
-        fault(x, "d;j9;x", 2, 2, 1);
-        fault(x, "d;x;j9;", 2, 1, 0);
-        fault(x, "d;d;d;d;d;d;d;d;d;d;p0,0;j0;", 25, 2, 2);
-        noFault(x, "d;d;d;d;d;d;d;d;d;p0,0;j0;");
-        noFault(x, "d;d;d;d;d;d;d;d;d;d;c0,100;p0,0;j0;");
+        Check.write(x, "d;p0,0;j0;m0,9;x");
+        Check.is("74: a fault behind orders", 15, x::faultPosition);
         Check.is("74: nothing is done by telling faults", 0, x::days);
         Check.is("74: no pieces came", 0, x::onBench);
         Check.is("74: no use", 0, () -> x.usesOf(0));
@@ -428,7 +437,7 @@ public final class HistoryTest {
     }
 
     private static void positions() {
-        VernierDrawers x = readyForTexts();
+        Made x = HistoryTest::readyForTexts;
         StringBuilder text = new StringBuilder();
         for (int i = 0; i < 29; i++) {
             text.append("d;");
@@ -503,8 +512,9 @@ public final class HistoryTest {
         Check.is("77: u", 3, y::play);
         Check.is("65: one", 1, y::unseen);
         Check.is("60: one day", 1, y::days);
-        fault(y, "p0,0;u;", 5, 2, 2);
-        noFault(y, "p0,0;j0;p0,0;u;");
+        Check.write(y, "p0,0;u;");
+        Check.is("74: u, twice", 5, y::faultPosition);
+        noFaultOf(y, "p0,0;j0;p0,0;u;");
     }
 
     private static void playRefused() {
@@ -538,46 +548,6 @@ public final class HistoryTest {
         Check.is("33: its own blocks again", 1, () -> x.fewestBlocks(100));
     }
 
-    /** What a tester can see of an object, but for the text, the history and the snapshot. */
-    private static String seen(VernierDrawers x) {
-        StringBuilder seen = new StringBuilder();
-        int[] alone = {x.tools(), x.warmth(), x.blocks(), x.stackable(), x.types(), x.onBench(), x.toFile(),
-            x.whyNotPass(), x.days(), x.brought(), x.broughtByPlaces(), x.good(), x.thrownAway(), x.unseen(),
-            x.doubts()};
-        seen.append(java.util.Arrays.toString(alone));
-        for (int i = 0; i < x.tools(); i++) {
-            seen.append(" tool ").append(x.kindOf(i)).append(' ').append(x.usesOf(i)).append(' ').append(x.wearOf(i))
-                    .append(' ').append(x.knownError(i)).append(' ').append(x.isDue(i)).append(' ')
-                    .append(x.usesLeft(i)).append(' ').append(x.readingFor(i, 2, 2000)).append(' ')
-                    .append(x.whyNotJudge(i));
-        }
-        for (int i = 0; i < x.blocks(); i++) {
-            seen.append(" block ").append(x.blockLength(i)).append(' ').append(x.blockError(i));
-        }
-        for (int i = 0; i < x.types(); i++) {
-            seen.append(" type ").append(x.lengthOf(i)).append(' ').append(x.widthOf(i)).append(' ')
-                    .append(x.mannerOf(i)).append(' ').append(x.recordOf(i)).append(' ').append(x.badOf(i))
-                    .append(' ').append(x.signalsOf(i));
-            for (int c = 0; c < x.charted(i); c++) {
-                seen.append(' ').append(x.chartedAt(i, c));
-            }
-        }
-        for (int i = 0; i < x.onBench(); i++) {
-            seen.append(" piece ").append(x.typeAt(i)).append(' ').append(x.wasDoubted(i));
-        }
-        if (x.good() + x.thrownAway() + x.toFile() > 0) {
-            seen.append(" share ").append(x.goodShare());
-        }
-        return seen.toString();
-    }
-
-    private static void same(String what, VernierDrawers x, VernierDrawers y) {
-        String got = seen(x);
-        String due = seen(y);
-        Check.is(what + " is seen as" + System.lineSeparator() + got + ", due is" + System.lineSeparator() + due, 1,
-                () -> Check.of(got.equals(due)));
-    }
-
     /** A run of 50 steps that leaves traces everywhere. */
     private static void step(VernierDrawers x, int step) {
         switch (step) {
@@ -609,20 +579,35 @@ public final class HistoryTest {
 
     private static final int STEPS = 50;
 
-    /** Tools, blocks, types and pieces that are gone leave nothing to those that come in their place. */
-    private static void roomsUsedAgain() {
-        VernierDrawers x = new VernierDrawers();
-        x.keep();
-        for (int i = 0; i < STEPS; i++) {
+    private static VernierDrawers run(VernierDrawers x, int steps) {
+        for (int i = 0; i < steps; i++) {
             step(x, i);
         }
-        x.goBack();
-        VernierDrawers y = new VernierDrawers();
-        same("69: back at the begin", x, y);
-        for (int i = 0; i < STEPS; i++) {
-            step(x, i);
-            step(y, i);
-            same("69: step " + i + " once more", x, y);
+        return x;
+    }
+
+    private static void same(String what, Made due, Made got) {
+        Check.same(what, Seen.things(due.make()), Seen.things(got.make()));
+        Check.same(what + ", what is hidden", Seen.hidden(due.make()), Seen.hidden(got.make()));
+    }
+
+    /** Tools, blocks, types and pieces that are gone leave nothing to those that come in their place. */
+    private static void roomsUsedAgain() {
+        for (int i = 0; i <= STEPS; i++) {
+            int steps = i;
+            Made first = () -> {
+                VernierDrawers x = new VernierDrawers();
+                x.keep();
+                return run(x, steps);
+            };
+            Made again = () -> {
+                VernierDrawers x = new VernierDrawers();
+                x.keep();
+                run(x, STEPS);
+                x.goBack();
+                return run(x, steps);
+            };
+            same("69: " + steps + " steps once more", first, again);
         }
         looselyAgain();
     }
@@ -652,24 +637,37 @@ public final class HistoryTest {
         }
     }
 
-    /** After each step one goes away and comes back, by undoing and by the snapshot. */
+    /** Behind some steps one goes away and comes back, by undoing and by the snapshot, or by both. */
     private static void nothingIsForgotten() {
-        VernierDrawers x = new VernierDrawers();
-        VernierDrawers y = new VernierDrawers();
-        for (int i = 0; i < STEPS; i++) {
-            step(x, i);
-            step(y, i);
-            x.setWarmth(50);
-            x.endDay();
-            x.undo();
-            x.undo();
-            same("71: undone behind step " + i, x, y);
-            x.keep();
-            if (i > 5) {
-                step(x, (i * 7) % 20 + 6);
-            }
-            x.goBack();
-            same("69: back behind step " + i, x, y);
+        for (int i = 1; i <= STEPS; i++) {
+            int steps = i;
+            Made stayed = () -> run(new VernierDrawers(), steps);
+            same("71: undone behind step " + steps, stayed, () -> undone(stayed.make()));
+            Made kept = () -> kept(stayed.make());
+            same("69: back behind step " + steps, kept, () -> back(kept.make(), steps));
+            same("69: back and back again behind step " + steps, kept, () -> back(back(undone(kept.make()), steps), 1));
         }
+    }
+
+    private static VernierDrawers kept(VernierDrawers x) {
+        x.keep();
+        return x;
+    }
+
+    private static VernierDrawers undone(VernierDrawers x) {
+        x.setWarmth(50);
+        x.endDay();
+        x.undo();
+        x.undo();
+        return x;
+    }
+
+    private static VernierDrawers back(VernierDrawers x, int steps) {
+        x.setWarmth(-10);
+        if (steps > 5) {
+            step(x, (steps * 7) % 20 + 6);
+        }
+        x.goBack();
+        return x;
     }
 }

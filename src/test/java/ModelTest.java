@@ -255,6 +255,10 @@ public final class ModelTest {
     }
 
     private void call(Method method, int... given) throws Exception {
+        // What later calls answer is free.
+        if (calls >= CALLS) {
+            return;
+        }
         int count = method.getParameterCount();
         Object[] arguments = new Object[count];
         StringBuilder what = new StringBuilder(method.getName());
