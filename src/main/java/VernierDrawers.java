@@ -579,7 +579,7 @@ public final class VernierDrawers {
     }
 
     private Block needBlock(int block) {
-        if (!inRange(block, 0, now.drawer.blockCount - 1)) {
+        if (!now.drawer.hasBlock(block)) {
             throw new IllegalArgumentException("there is no such block");
         }
         return now.drawer.blocks[block];
@@ -826,6 +826,10 @@ public final class VernierDrawers {
             return tool >= 0 && tool < toolCount && tool < tools.length;
         }
 
+        boolean hasBlock(int block) {
+            return block >= 0 && block < blockCount && block < blocks.length;
+        }
+
         int putTool(int kind, int error) {
             int number = toolCount;
             if (number < tools.length) {
@@ -897,7 +901,7 @@ public final class VernierDrawers {
             int learned = reading(used, STEEL, trueLengthOf(stack)) - length;
             used.useOn(STEEL);
             used.learn(learned, day);
-            for (int b = 0; b < blockCount; b++) {
+            for (int b = 0; b < blockCount && b < blocks.length; b++) {
                 if (isIn(stack, b)) {
                     blocks[b].useOnce();
                 }
@@ -911,7 +915,7 @@ public final class VernierDrawers {
 
         int countDue() {
             int due = 0;
-            for (int i = 0; i < toolCount; i++) {
+            for (int i = 0; i < toolCount && i < tools.length; i++) {
                 if (tools[i].dueOn(day)) {
                     due++;
                 }
@@ -940,7 +944,7 @@ public final class VernierDrawers {
 
         int lengthOfSet(int set) {
             int sum = 0;
-            for (int b = 0; b < blockCount; b++) {
+            for (int b = 0; b < blockCount && b < blocks.length; b++) {
                 if (isIn(set, b)) {
                     sum += blocks[b].length;
                 }
@@ -950,7 +954,7 @@ public final class VernierDrawers {
 
         int trueLengthOf(int set) {
             int sum = lengthOfSet(set);
-            for (int b = 0; b < blockCount; b++) {
+            for (int b = 0; b < blockCount && b < blocks.length; b++) {
                 if (isIn(set, b)) {
                     sum += blocks[b].error;
                 }
@@ -976,7 +980,7 @@ public final class VernierDrawers {
                 Arrays.fill(rows[n], 0L);
             }
             rows[0][0] = 1L;
-            for (int b = 0; b < drawer.blockCount; b++) {
+            for (int b = 0; b < drawer.blockCount && b < drawer.blocks.length; b++) {
                 // The most blocks first: else a block would be put to a stack that has it.
                 for (int n = MOST_STACKED; n > 0; n--) {
                     putShifted(rows[n - 1], rows[n], drawer.blocks[b].length);
@@ -1508,7 +1512,7 @@ public final class VernierDrawers {
         int bestToolToJudge() {
             int best = -1;
             int leastStep = 0;
-            for (int i = 0; i < drawer.toolCount; i++) {
+            for (int i = 0; i < drawer.toolCount && i < drawer.tools.length; i++) {
                 Tool tool = drawer.tools[i];
                 boolean finer = best < 0 || tool.step < leastStep;
                 if (finer && bench.reasonNotToJudge(drawer, tool) == 0) {
@@ -1639,7 +1643,8 @@ public final class VernierDrawers {
         int reason;
         int cause;
 
-        void run(State from, char[] text, int length) {
+        void run(State from, char[] text, int typed) {
+            int length = Math.min(typed, text.length);
             state.copyFrom(from);
             orders = 0;
             position = 0;
