@@ -810,12 +810,12 @@ public final class VernierDrawers {
         }
 
         void copyFrom(Drawer other) {
-            toolCount = Math.min(other.toolCount, tools.length);
-            for (int i = 0; i < toolCount; i++) {
+            toolCount = other.toolCount;
+            for (int i = 0; i < toolCount && i < tools.length; i++) {
                 tools[i].copyFrom(other.tools[i]);
             }
-            blockCount = Math.min(other.blockCount, blocks.length);
-            for (int i = 0; i < blockCount; i++) {
+            blockCount = other.blockCount;
+            for (int i = 0; i < blockCount && i < blocks.length; i++) {
                 blocks[i].copyFrom(other.blocks[i]);
             }
             degrees = other.degrees;
@@ -1305,10 +1305,10 @@ public final class VernierDrawers {
         }
 
         int throwOutOfChart(int tolerance) {
-            int before = Math.min(chartCount, chart.length);
+            int before = chartCount;
             int middle = middleInOrder();
             int kept = 0;
-            for (int i = 0; i < before; i++) {
+            for (int i = 0; i < before && i < chart.length; i++) {
                 if (Math.abs(chart[i] - middle) <= tolerance) {
                     chart[kept] = chart[i];
                     kept++;
@@ -1340,8 +1340,8 @@ public final class VernierDrawers {
         }
 
         void copyFrom(Bench other) {
-            typeCount = Math.min(other.typeCount, types.length);
-            for (int i = 0; i < typeCount; i++) {
+            typeCount = other.typeCount;
+            for (int i = 0; i < typeCount && i < types.length; i++) {
                 types[i].copyFrom(other.types[i]);
             }
             waiting.copyFrom(other.waiting);

@@ -1,7 +1,9 @@
+import com.sun.source.tree.ArrayAccessTree;
 import com.sun.source.tree.BinaryTree;
 import com.sun.source.tree.ClassTree;
 import com.sun.source.tree.CompilationUnitTree;
 import com.sun.source.tree.ConditionalExpressionTree;
+import com.sun.source.tree.ForLoopTree;
 import com.sun.source.tree.IfTree;
 import com.sun.source.tree.MethodInvocationTree;
 import com.sun.source.tree.MethodTree;
@@ -26,20 +28,23 @@ import javax.tools.JavaCompiler;
 import javax.tools.StandardJavaFileManager;
 import javax.tools.ToolProvider;
 
-/** The rules of LANGUAGE.md that are seen in who calls whom (8, 11) and in what divides (7). */
+/** The rules of LANGUAGE.md that are seen in who calls whom (8, 11), in what divides and in what is indexed (7). */
 public final class CallsTest {
     private static final Path SOURCE = Path.of("src/main/java/VernierDrawers.java");
     private static final int MOST_DEEP = 8;
 
     private final Map<Element, Set<Element>> calls = new HashMap<>();
     private final Map<Element, Integer> depths = new HashMap<>();
-    private final List<String> unguarded = new ArrayList<>();
+    private final List<String> divisorsNotSeen = new ArrayList<>();
+    private final List<String> indexesNotSeen = new ArrayList<>();
     private int divisions;
+    private int countedIndexes;
 
     public static void main(String[] args) throws IOException {
         CallsTest test = new CallsTest();
         test.read();
         test.looksAtDivisors();
+        test.looksAtIndexes();
         test.looksAtDepths();
         Check.end();
     }
@@ -60,7 +65,12 @@ public final class CallsTest {
 
     private void looksAtDivisors() {
         Check.is("divisions are found", 1, () -> Check.of(divisions > 5));
-        Check.is("divisors that are not looked at: " + unguarded, 0, unguarded::size);
+        Check.is("divisors that are not looked at: " + divisorsNotSeen, 0, divisorsNotSeen::size);
+    }
+
+    private void looksAtIndexes() {
+        Check.is("indexes that a loop counts are found", 1, () -> Check.of(countedIndexes > 20));
+        Check.is("indexes that are not looked at: " + indexesNotSeen, 0, indexesNotSeen::size);
     }
 
     private void looksAtDepths() {
@@ -152,10 +162,40 @@ public final class CallsTest {
             if (tree.getKind() == Tree.Kind.DIVIDE || tree.getKind() == Tree.Kind.REMAINDER) {
                 divisions++;
                 if (!isConstant(tree.getRightOperand()) && !isGuarded(tree.getRightOperand())) {
-                    unguarded.add(tree.toString());
+                    divisorsNotSeen.add(tree.toString());
                 }
             }
             return super.visitBinary(tree, none);
+        }
+
+        /** What a loop counts is compared, in the loop, with the row that it is an index of. */
+        @Override
+        public Void visitArrayAccess(ArrayAccessTree tree, Void none) {
+            String index = tree.getIndex().toString();
+            String row = tree.getExpression().toString().replaceAll(".*\\.", "").replaceAll("\\[.*", "");
+            ForLoopTree loop = loopThatCounts(index);
+            if (loop != null) {
+                countedIndexes++;
+                String condition = loop.getCondition().toString();
+                boolean seen = (condition + " ").matches(".*\\b" + index + " (< (\\w+\\.)*" + row + "\\.length"
+                        + "|< [A-Z]+|> 0)\\W.*");
+                if (!seen) {
+                    indexesNotSeen.add(tree + " with " + condition);
+                }
+            }
+            return super.visitArrayAccess(tree, none);
+        }
+
+        private ForLoopTree loopThatCounts(String index) {
+            for (TreePath path = getCurrentPath(); path != null && !(path.getLeaf() instanceof MethodTree);
+                    path = path.getParentPath()) {
+                if (path.getLeaf() instanceof ForLoopTree loop && !loop.getInitializer().isEmpty()
+                        && loop.getInitializer().get(0) instanceof VariableTree counter
+                        && counter.getName().contentEquals(index)) {
+                    return loop;
+                }
+            }
+            return null;
         }
 
         private boolean isConstant(Tree divisor) {
@@ -170,7 +210,7 @@ public final class CallsTest {
         /** A condition round it, in the same method, compares the divisor. */
         private boolean isGuarded(Tree divisor) {
             String name = divisor.toString().replaceAll("^\\(\\w+\\)", "");
-            for (TreePath path = getCurrentPath(); path.getLeaf() instanceof MethodTree == false;
+            for (TreePath path = getCurrentPath(); path != null && !(path.getLeaf() instanceof MethodTree);
                     path = path.getParentPath()) {
                 String condition = "";
                 if (path.getLeaf() instanceof ConditionalExpressionTree choice) {

@@ -3,12 +3,12 @@ import java.lang.management.ManagementFactory;
 
 /**
  * The room of a run of 512 calls (LANGUAGE.md, rule 12): some 600,000 objects and 7.3 million fields
- * and elements. An object takes 16 bytes or more, a field or an element mostly 4; so the bound here
- * is a fifth of the room or less.
+ * and elements. An object takes 16 bytes or more, a field or an element mostly 4; the bound here
+ * is far below that, so that a run which makes a state for each change is told.
  */
 public final class RoomTest {
     private static final int CALLS = 512;
-    private static final long MOST_BYTES = 2_000_000;
+    private static final long MOST_BYTES = 1_200_000;
     private static final ThreadMXBean THREADS = (ThreadMXBean) ManagementFactory.getThreadMXBean();
 
     /** One call, by its place in the run. */
